@@ -1,0 +1,103 @@
+import java.util.Random;
+
+/** Long runs of mixed calls, each answer held against PlainYard's. The seeds are fixed: every run is the same again. */
+public final class AgainstPlainTest {
+    private static final int CALLS = 512;
+    private static final int RUNS_OF_A_KIND = 12;
+    // How often each call comes, by kind of run.
+    private static final String[] NAMES = {"put", "add", "open", "close", "assume", "free", "least", "next", "can",
+        "forced", "blames", "count", "value", "look"};
+    private static final int[][] OFTEN = {
+        {8, 4, 2, 2, 2, 1, 3, 6, 2, 3, 3, 2, 3, 3},
+        {40, 12, 1, 1, 1, 1, 3, 8, 2, 4, 2, 2, 2, 1},
+        {30, 1, 1, 1, 1, 1, 1, 1, 1, 1, 1, 1, 1, 1},
+        {2, 60, 8, 2, 1, 1, 1, 1, 1, 1, 1, 1, 1, 1},
+        {6, 2, 20, 8, 1, 1, 1, 1, 1, 1, 1, 1, 1, 1},
+        {9, 3, 1, 1, 12, 1, 2, 3, 2, 4, 12, 2, 1, 1},
+    };
+    private static final int[] EXTREMES = {0, -1, 18, -18, 19, -19, 64, 65, Integer.MAX_VALUE, Integer.MIN_VALUE};
+
+    public static void main(String[] args) {
+        for (int kind = 0; kind < OFTEN.length; kind++) {
+            for (int seed = 0; seed < RUNS_OF_A_KIND; seed++) {
+                mixedRun(kind, seed);
+            }
+        }
+        for (int clauses = 40; clauses <= 110; clauses += 5) {
+            crowdedRun(clauses);
+        }
+        Run.end();
+    }
+
+    private static void mixedRun(int kind, int seed) {
+        Random random = new Random(1000L * kind + seed);
+        int variables = seed % 3 == 0 ? 18 : 3 + random.nextInt(10);
+        Run run = new Run("mixed run " + kind + "." + seed);
+        PlainYard plain = new PlainYard();
+        for (int i = 0; i < CALLS; i++) {
+            String call = someCall(random, OFTEN[kind], variables);
+            run.due(call, plain.answer(call));
+        }
+    }
+
+    private static String someCall(Random random, int[] often, int variables) {
+        int sum = 0;
+        for (int weight : often) {
+            sum += weight;
+        }
+        int left = random.nextInt(sum);
+        int at = 0;
+        while (left >= often[at]) {
+            left -= often[at];
+            at++;
+        }
+        return NAMES[at] + argument(random, NAMES[at], variables);
+    }
+
+    private static String argument(Random random, String name, int variables) {
+        boolean extreme = random.nextInt(25) == 0;
+        int odd = EXTREMES[random.nextInt(EXTREMES.length)];
+        switch (name) {
+            case "put", "assume", "forced":
+                return " " + (extreme ? odd : literal(random, variables));
+            case "blames":
+                return " " + (extreme ? odd : random.nextInt(6));
+            case "count":
+                return " " + (extreme ? odd : 1 + random.nextInt(64));
+            case "value":
+                return " " + (extreme ? odd : 1 + random.nextInt(18));
+            case "look":
+                return " " + (extreme ? odd : random.nextInt(5));
+            default:
+                return "";
+        }
+    }
+
+    private static int literal(Random random, int variables) {
+        // Variables from both ends, so that low and high ones quarrel.
+        int v = 1 + random.nextInt(variables);
+        int variable = random.nextBoolean() ? v : 19 - v;
+        return random.nextBoolean() ? variable : -variable;
+    }
+
+    /** Many clauses of three literals: few good assignments or none, which is where a search works hardest. */
+    private static void crowdedRun(int clauses) {
+        Random random = new Random(clauses);
+        Run run = new Run("crowded run " + clauses);
+        PlainYard plain = new PlainYard();
+        int calls = 0;
+        for (int i = 0; i < 3 * clauses; i++) {
+            String put = "put " + literal(random, 18);
+            run.due(put, plain.answer(put));
+            calls++;
+            if (i % 3 == 2) {
+                run.due("add", plain.answer("add"));
+                calls++;
+            }
+        }
+        for (; calls < CALLS; calls++) {
+            String call = someCall(random, new int[] {0, 0, 0, 0, 2, 1, 3, 12, 2, 6, 4, 4, 2, 1}, 18);
+            run.due(call, plain.answer(call));
+        }
+    }
+}
