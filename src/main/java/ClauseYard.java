@@ -243,10 +243,11 @@ public final class ClauseYard {
             giveReasonsOfStart(start);
             // No assignment below start: where start's high variables at 0 all stay so, the low ones may not be less.
             writeParts(rows, HIGH & ~start, 0, WHOLE_BLOCK << (start & (BLOCK - 1)));
+            long goodByLow = goodByLowAlone(rows + 1);
             int block = start & HIGH;
             // A leap always goes upwards, so there are no more steps than blocks.
             for (int step = 0; step < BLOCKS && block != NONE; step++) {
-                found = goodInBlock(block, rows + 1);
+                found = goodInBlock(block, goodByLow, rows + 1);
                 if (found != 0) {
                     return block + Long.numberOfTrailingZeros(found);
                 }
@@ -298,9 +299,20 @@ public final class ClauseYard {
             }
         }
 
-        /** The assignments of the block in which the rows are true; if there is none, also what is to blame for it. */
-        private long goodInBlock(int block, int rows) {
+        /** The assignments of any block that make true the rows without high variables, which have none to blame. */
+        private long goodByLowAlone(int rows) {
             long good = WHOLE_BLOCK;
+            for (int row = 0; row < rows && row < ROWS; row++) {
+                if ((highYes[row] | highNo[row]) == 0) {
+                    good &= low[row];
+                }
+            }
+            return good;
+        }
+
+        /** The assignments of the block in which the rows are true; if there is none, also what is to blame for it. */
+        private long goodInBlock(int block, long goodByLow, int rows) {
+            long good = goodByLow;
             blamedYes = 0;
             blamedNo = 0;
             for (int row = 0; row < rows && row < ROWS && good != 0; row++) {

@@ -17,6 +17,13 @@ public final class AgainstPlainTest {
     };
     private static final int MANY_EMPTY = 3;
     private static final int[] EXTREMES = {0, -1, 18, -18, 19, -19, 64, 65, Integer.MAX_VALUE, Integer.MIN_VALUE};
+    // Found by trying: the least good assignment is among the last 64, and the search leaps over none before them.
+    private static final int[][][] LONG_SEARCHES = {
+        {{9, -7}, {2, 7, 8}, {7, -8}, {-3}, {-1, 16, -7}, {-7, -5}, {-8, 14}, {-7, 12}, {-1, 10}, {-9, 5, 11},
+            {5, 13}, {-15, 1}, {8, -10, 3}, {17, 5}, {-9, 18, 3}, {3, 15}},
+        {{-7, 12, -8}, {7, -5, -6}, {13, -10, -9, -7}, {-7, 10}, {-5, 15, -9}, {8, -6}, {-6, 18, -13}, {-11, 5},
+            {-8, -5, 16, -8}, {9, -5}, {-7, 14}, {-1}, {-15, 6, -9}, {-6, 17}, {1, 11}},
+    };
 
     public static void main(String[] args) {
         for (int kind = 0; kind < OFTEN.length; kind++) {
@@ -26,6 +33,9 @@ public final class AgainstPlainTest {
         }
         for (int clauses = 40; clauses <= 110; clauses += 5) {
             crowdedRun(clauses);
+        }
+        for (int[][] clauses : LONG_SEARCHES) {
+            longSearch(clauses);
         }
         Run.end();
     }
@@ -114,6 +124,20 @@ public final class AgainstPlainTest {
         for (; calls < CALLS; calls++) {
             String call = someCall(random, new int[] {0, 0, 0, 0, 2, 1, 3, 12, 2, 6, 4, 4, 2, 1}, 18);
             due(run, plain, call, random);
+        }
+    }
+
+    private static void longSearch(int[][] clauses) {
+        Run run = new Run("long search");
+        PlainYard plain = new PlainYard();
+        for (int[] clause : clauses) {
+            for (int literal : clause) {
+                run.due("put " + literal, plain.answer("put " + literal));
+            }
+            run.due("add", plain.answer("add"));
+        }
+        for (String call : new String[] {"can", "least", "next", "next", "count 64", "forced 18", "forced 7"}) {
+            run.due(call, plain.answer(call));
         }
     }
 }

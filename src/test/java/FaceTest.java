@@ -30,6 +30,13 @@ public final class FaceTest {
         for (Field field : ClauseYard.class.getDeclaredFields()) {
             wrong += check(Modifier.isPrivate(field.getModifiers()), "field " + field.getName() + " is shown");
         }
+        wrong += memoryMadeLater(ClauseYard.class);
+        for (Class<?> inside : ClauseYard.class.getDeclaredClasses()) {
+            int modifiers = inside.getModifiers();
+            wrong += check(Modifier.isStatic(modifiers) && !Modifier.isPublic(modifiers)
+                && !Modifier.isProtected(modifiers), "class " + inside.getSimpleName() + " is shown");
+            wrong += memoryMadeLater(inside);
+        }
         Constructor<?>[] constructors = ClauseYard.class.getDeclaredConstructors();
         wrong += check(constructors.length == 1 && constructors[0].getParameterCount() == 0
             && Modifier.isPublic(constructors[0].getModifiers()), "the constructors");
@@ -44,6 +51,17 @@ public final class FaceTest {
             System.out.println("wrong: " + what);
         }
         return holds ? 0 : 1;
+    }
+
+    /** All memory is made once: what a field refers to, it refers to for good. Static fields are constants. */
+    private static int memoryMadeLater(Class<?> of) {
+        int wrong = 0;
+        for (Field field : of.getDeclaredFields()) {
+            boolean isFinal = Modifier.isFinal(field.getModifiers());
+            wrong += check(isFinal || field.getType().isPrimitive() && !Modifier.isStatic(field.getModifiers()),
+                "field " + field.getName() + " is not final");
+        }
+        return wrong;
     }
 
     private static Set<String> shownMethods() {
